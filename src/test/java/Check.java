@@ -1,5 +1,6 @@
 /** Counts the answers that are due and prints those that did not come. */
 final class Check {
+    private static final int PRINTED_MOST = 40;
     private static int passed = 0;
     private static int failed = 0;
 
@@ -14,8 +15,14 @@ final class Check {
         if (got == want) {
             passed++;
         } else {
-            failed++;
-            System.out.println(what + " answered " + got + ", due is " + want);
+            fail(what + " answered " + got + ", due is " + want);
+        }
+    }
+
+    private static void fail(String line) {
+        failed++;
+        if (failed <= PRINTED_MOST) {
+            System.out.println(line);
         }
     }
 
@@ -29,8 +36,7 @@ final class Check {
         if (came.equals(want.getSimpleName())) {
             passed++;
         } else {
-            failed++;
-            System.out.println(what + " gave " + came + ", due is " + want.getSimpleName());
+            fail(what + " gave " + came + ", due is " + want.getSimpleName());
         }
     }
 
