@@ -13,6 +13,8 @@ public final class TermMachine {
     private static final int OTHERS_MOST = 20;
     private static final int GROUPS_MOST = 5;
     private static final long NATURAL_MOST = 2147483647L;
+    private static final long NUMBER_LEAST = -2147483648L;
+    private static final long NUMBER_MOST = 2147483647L;
     private static final int BYTES_MOST = 7;
     private static final int ARGUMENTS_MOST = 3;
     private static final int FRAMES_MOST = 200;
@@ -211,7 +213,7 @@ public final class TermMachine {
         }
 
         int bitAt(int at) {
-            if (at < 0 || at >= bits()) {
+            if (at < 0 || (at >> 3) >= length) {
                 return 0;
             }
             return (bytes[at >> 3] >> (7 - (at & 7))) & 1;
@@ -300,8 +302,8 @@ public final class TermMachine {
             return (int) (packed >>> SHIFT);
         }
 
-        static int byteAt(long packed, int n) {
-            return (int) (packed >>> (8 * (length(packed) - 1 - n))) & 255;
+        static int byteAt(long packed, int length, int n) {
+            return (int) (packed >>> (8 * (length - 1 - n))) & 255;
         }
 
         static long joined(long one, long other) {
@@ -653,7 +655,7 @@ public final class TermMachine {
                     if (other < 0 || other >= length) {
                         failed = true;
                     } else {
-                        give(NUMBER, Packed.byteAt(one, (int) other));
+                        give(NUMBER, Packed.byteAt(one, length, (int) other));
                     }
                     break;
                 case SAME_BYTES:
@@ -674,7 +676,7 @@ public final class TermMachine {
         }
 
         private void giveNumber(long number) {
-            if (number < Integer.MIN_VALUE || number > Integer.MAX_VALUE) {
+            if (number < NUMBER_LEAST || number > NUMBER_MOST) {
                 failed = true;
             } else {
                 give(NUMBER, number);
@@ -919,7 +921,7 @@ public final class TermMachine {
         void tell(Program program, Store store, int value) {
             count = 0;
             waiting = 0;
-            putOffValue(value);
+            putOff(value, NONE, A_VALUE);
             // Only a free VARIABLE tells no number itself, and the value behind it does.
             for (int i = 0; i < 2 * NUMBERS_MOST && waiting > 0 && count < NUMBERS_MOST; i++) {
                 waiting--;
@@ -939,17 +941,11 @@ public final class TermMachine {
         }
 
         private void putOff(int partToTell, int environmentOfPart, int lambdasAround) {
-            if (waiting < WAITING_MOST) {
+            if (partToTell != NONE && waiting < WAITING_MOST) {
                 part[waiting] = partToTell;
                 environment[waiting] = environmentOfPart;
                 lambdas[waiting] = lambdasAround;
                 waiting++;
-            }
-        }
-
-        private void putOffValue(int value) {
-            if (value != NONE) {
-                putOff(value, NONE, A_VALUE);
             }
         }
 
@@ -986,7 +982,7 @@ public final class TermMachine {
             // From the latest to the first: the first one comes off the pile first.
             int from = partial;
             for (int i = 0; i < arguments; i++) {
-                putOffValue(store.left[from]);
+                putOff(store.left[from], NONE, A_VALUE);
                 from = store.right[from];
             }
         }
@@ -1029,7 +1025,7 @@ public final class TermMachine {
 
         private void tellVariable(Store store, int k, int around, int lambdasAround) {
             if (k > lambdasAround) {
-                putOffValue(store.valueAt(around, k - lambdasAround));
+                putOff(store.valueAt(around, k - lambdasAround), NONE, A_VALUE);
             } else {
                 add(VARIABLE);
                 add(k);
@@ -1045,7 +1041,7 @@ public final class TermMachine {
                 int length = Packed.length(content);
                 add(length);
                 for (int i = 0; i < length; i++) {
-                    add(Packed.byteAt(content, i));
+                    add(Packed.byteAt(content, length, i));
                 }
             }
         }
