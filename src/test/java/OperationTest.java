@@ -13,6 +13,7 @@ public final class OperationTest {
         bytes();
         kinds();
         wholeRange();
+        oneBehindAnother();
         Check.close("OperationTest");
     }
 
@@ -109,6 +110,7 @@ public final class OperationTest {
         String four = Code.bytes(9, 8, 7, 6);
         String seven = Code.bytes(255, 2, 3, 4, 5, 6, 128);
         gives(7, 8, new String[] {three, four}, 4, 3, 7, 1, 255, 0, 9, 8, 7, 6);
+        gives(7, 4, new String[] {Code.bytes(3, 5), Code.bytes(255)}, 4, 3, 3, 3, 5, 255);
         gives(7, 4, new String[] {none, three}, 4, 3, 3, 1, 255, 0);
         gives(7, 4, new String[] {three, none}, 4, 3, 3, 1, 255, 0);
         gives(7, 1, new String[] {none, none}, 4, 3, 0);
@@ -170,6 +172,20 @@ public final class OperationTest {
         Check.tells("most below least", Code.ran(term(5, most, least), 99), 4, 1, 0);
         ended("most * most", term(2, most, most), 14);
         ended("least * least", term(2, least, least), 14);
+    }
+
+    // Nothing of an operation that was done is left for the next one, not even in its costs.
+    private static void oneBehindAnother() {
+        String choice = term(6, Code.truth(true), Code.bytes(1), Code.bytes(1, 2, 3));
+        TermMachine x = Code.ran(term(7, choice, Code.bytes(7)), 1000);
+        Check.stands("a choice, joined", x, 11, 24, 24 + 1 + 3, 0, 13);
+        Check.tells("a choice, joined", x, 4, 3, 2, 1, 7);
+        String failing = term(3, Code.number(1), Code.number(0));
+        TermMachine y = Code.ran(failing, 1000);
+        Code.read(y, Code.program(0, term(3, Code.number(6), Code.number(2))));
+        y.begin(100);
+        y.run(100);
+        Check.tells("behind one that failed", y, 4, 0, 3);
     }
 
     private static void ended(String what, String term, int state) {
