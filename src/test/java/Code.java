@@ -21,6 +21,15 @@ final class Code {
         return row.toString();
     }
 
+    /** The number in so many groups, also if fewer would do. */
+    static String groups(long n, int many) {
+        StringBuilder row = new StringBuilder();
+        for (int i = 0; i < many; i++) {
+            row.append(i < many - 1 ? 1 : 0).append(bits(n >> (7 * i), 7));
+        }
+        return row.toString();
+    }
+
     static String variable(long k) {
         return "000" + natural(k);
     }
@@ -76,6 +85,24 @@ final class Code {
     /** A term in so many others, all of them alike (three bits each). */
     static String within(int others, String head, String term) {
         return head.repeat(others) + term;
+    }
+
+    /** So many leaves, all alike, under APPLYs: not deep. */
+    static String tree(int leaves, String leaf) {
+        if (leaves == 1) {
+            return leaf;
+        }
+        return "011" + tree(leaves / 2, leaf) + tree(leaves - leaves / 2, leaf);
+    }
+
+    /** A term that gives the number, also one that no constant can be. */
+    static String integer(long n) {
+        if (n >= -(1 << 30) && n < 1 << 30) {
+            return number(n);
+        }
+        long half = n >> 1;
+        return n < 0 ? apply(operation(0), number(half), number(n - half))
+            : apply(operation(1), number(half), number(half - n));
     }
 
     static String program(long version, String term) {
