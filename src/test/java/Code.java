@@ -113,11 +113,15 @@ final class Code {
         return row + "0".repeat(7 - row.length() % 8) + "1";
     }
 
-    /** Bits that fill no whole byte are filled up with 0. */
+    /**
+     * Bits that fill no whole byte are filled up with 0. Four bytes a call, because an object has only
+     * 512 calls and some tests ask for 400 numbers.
+     */
     static void feed(TermMachine x, String row) {
         String whole = row + "0".repeat((8 - row.length() % 8) % 8);
-        for (int i = 0; i < whole.length(); i += 8) {
-            x.text(Integer.parseInt(whole.substring(i, i + 8), 2), 1);
+        for (int i = 0; i < whole.length(); i += 32) {
+            String part = whole.substring(i, Math.min(i + 32, whole.length()));
+            x.text(Integer.parseUnsignedInt(part, 2), part.length() / 8);
         }
     }
 

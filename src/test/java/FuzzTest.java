@@ -5,14 +5,17 @@ import java.util.Random;
  * answers. The seed is fixed, so that each run is the same.
  */
 public final class FuzzTest {
-    private static final int RUNS = 4000;
+    private static final int RUNS = 20000;
     private static final int CALLS_MOST = 512;
+    private static final int NUMBERS_ASKED = 24;
+    private static final int[] ENDS = new int[7];
 
     private final Random random;
     private final TermMachine x = new TermMachine();
     private final Reference y = new Reference();
     private final int run;
-    private static final int[] ENDS = new int[7];
+    // An object has 512 calls; each call of x is counted.
+    private int calls = 0;
 
     private FuzzTest(int run) {
         this.run = run;
@@ -21,42 +24,45 @@ public final class FuzzTest {
 
     public static void main(String[] args) {
         for (int run = 0; run < RUNS; run++) {
-            new FuzzTest(run).calls();
+            new FuzzTest(run).goThrough();
         }
         for (int how = 1; how <= 6; how++) {
-            Check.due("enough runs ended with " + how, ENDS[how] >= 100 ? 1 : 0, 1);
+            Check.due("enough runs ended with " + how, ENDS[how] >= 1000 ? 1 : 0, 1);
         }
         Check.close("FuzzTest");
     }
 
-    private void calls() {
-        int calls = 0;
-        while (calls < CALLS_MOST - 130) {
-            calls += text();
+    private boolean mayGoOn() {
+        return calls < CALLS_MOST;
+    }
+
+    private void goThrough() {
+        while (mayGoOn()) {
+            text();
             same("read()", () -> x.read(), () -> y.read());
-            calls++;
             int times = random.nextInt(3);
             for (int i = 0; i < times; i++) {
-                calls += work();
+                work();
             }
             int[] odd = {-1, 0, 5, 101, 100001};
             int n = odd[random.nextInt(odd.length)];
             same("run " + n, () -> x.run(n), () -> y.run(n));
             same("begin " + n, () -> x.begin(n) ? 1 : 0, () -> y.begin(n) ? 1 : 0);
-            calls += 2;
         }
     }
 
-    private int text() {
+    // Up to 4 bytes a call, and other bytes above them.
+    private void text() {
         String row = damaged(Code.program(random.nextInt(4) == 0 ? random.nextInt() & 0x7fffffff : 0, term()));
         String whole = row + "0".repeat((8 - row.length() % 8) % 8);
-        int calls = 0;
-        for (int i = 0; i < whole.length() && calls < 82; i += 8) {
-            int one = Integer.parseInt(whole.substring(i, i + 8), 2) | random.nextInt() << 8;
-            same("text", () -> x.text(one, 1), () -> y.text(one, 1));
-            calls++;
+        int at = 0;
+        while (at < whole.length()) {
+            int n = Math.min(1 + random.nextInt(4), (whole.length() - at) / 8);
+            long bits = Long.parseLong(whole.substring(at, at + 8 * n), 2);
+            int four = (int) (n == 4 ? bits : bits | (long) random.nextInt() << (8 * n));
+            same("text", () -> x.text(four, n), () -> y.text(four, n));
+            at += 8 * n;
         }
-        return calls;
     }
 
     private String damaged(String row) {
@@ -77,35 +83,42 @@ public final class FuzzTest {
         }
     }
 
-    private int work() {
+    private void work() {
         int budget = random.nextInt(3) == 0 ? random.nextInt(60) : random.nextInt(100001);
         same("begin", () -> x.begin(budget) ? 1 : 0, () -> y.begin(budget) ? 1 : 0);
-        int calls = 1;
-        for (int i = 0; i < 30 && (i == 0 || x.about(3) < 10 && x.about(3) > 0); i++) {
+        for (int i = 0; i < 40 && (i == 0 || y.about(3) < 10 && y.about(3) > 0); i++) {
             int n = random.nextInt(4) == 0 ? 1 + random.nextInt(100) : 100;
             same("run", () -> x.run(n), () -> y.run(n));
-            compare();
-            calls++;
+            if (random.nextInt(8) == 0) {
+                compare();
+            }
         }
-        if (x.about(3) > 10) {
-            ENDS[x.about(3) - 10]++;
+        compare();
+        if (y.about(3) > 10 && mayGoOn()) {
+            ENDS[y.about(3) - 10]++;
         }
-        return calls;
     }
 
     private void compare() {
         for (int what = -1; what <= 9; what++) {
-            Check.due("run " + run + ": about(" + what + ")", x.about(what), y.about(what));
+            int about = what;
+            same("about(" + what + ")", () -> x.about(about), () -> y.about(about));
         }
-        for (int i = -1; i <= 401; i++) {
-            if (x.told(i) != y.told(i)) {
-                Check.due("run " + run + ": told(" + i + ")", x.told(i), y.told(i));
+        int many = y.about(8);
+        for (int i = 0; i < NUMBERS_ASKED; i++) {
+            int at = many <= NUMBERS_ASKED - 2 ? i - 1 : random.nextInt(many + 2) - 1;
+            same("told(" + at + ")", () -> x.told(at), () -> y.told(at));
+            if (at > many) {
+                return;
             }
         }
     }
 
     private void same(String what, Check.Call one, Check.Call other) {
-        Check.due("run " + run + ": " + what, answer(one), answer(other));
+        if (mayGoOn()) {
+            calls++;
+            Check.due("run " + run + ": " + what, answer(one), answer(other));
+        }
     }
 
     private static long answer(Check.Call call) {

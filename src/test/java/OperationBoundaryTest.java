@@ -186,7 +186,7 @@ public final class OperationBoundaryTest {
     private static int[] row(int many) {
         int[] all = new int[many];
         for (int i = 0; i < many; i++) {
-            all[i] = 255 - 20 * i;
+            all[i] = 254 - 20 * i;
         }
         return all;
     }
@@ -229,7 +229,7 @@ public final class OperationBoundaryTest {
         for (int many = 0; many <= 7; many++) {
             fails(term(9, bytes(many), Code.number(-1)));
             for (int n = 0; n < many; n++) {
-                gives(term(9, bytes(many), Code.number(n)), 4, 0, 255 - 20 * n);
+                gives(term(9, bytes(many), Code.number(n)), 4, 0, 254 - 20 * n);
             }
             long[] none = {many, many + 1, 8, 64, 256, MOST, LEAST, LEAST + 1};
             for (long n : none) {
@@ -237,7 +237,7 @@ public final class OperationBoundaryTest {
             }
         }
         String joined = term(7, bytes(2), bytes(1));
-        gives(term(9, joined, Code.number(2)), 4, 0, 255);
+        gives(term(9, joined, Code.number(2)), 4, 0, 254);
         fails(term(9, joined, Code.number(3)));
         gives(term(9, Code.bytes(0), Code.number(0)), 4, 0, 0);
     }
@@ -325,6 +325,14 @@ public final class OperationBoundaryTest {
         }
         costs(7, 1, 4, Code.unit(), Code.unit());
         costs(9, 1, 4, Code.number(0), Code.number(0));
+        // A number is not bytes, whatever its bits are.
+        costs(7, 3, 4, bytes(2), Code.number(-1));
+        costs(9, 3, 4, bytes(2), Code.number(-1));
+        costs(9, 1, 4, Code.number(-1), Code.number(-1));
+        // The bytes of an operation that was done before are none of its arguments.
+        String choice = term(6, Code.truth(true), bytes(1), bytes(5));
+        TermMachine x = Code.ran(term(7, choice, bytes(2)), 1000);
+        Check.stands("joined behind a choice", x, 11, 24, 24 + 1 + 4, 0, 13, 6);
     }
 
     /**
