@@ -24,6 +24,7 @@ public final class ResultBoundaryTest {
         cutOffInEachThing();
         cutOffInPartials();
         manyCutOff();
+        behindOneCutOff();
         lastAndFirstNumbers();
         onlyWithOne();
         Check.close("ResultBoundaryTest");
@@ -308,6 +309,22 @@ public final class ResultBoundaryTest {
         Check.due("many: told(128)", x.told(128), 4);
         Check.due("many: told(399)", x.told(399) == -1 ? 1 : 0, 0);
         Check.due("many: told(400)", x.told(400), -1);
+    }
+
+    // What was cut off comes to no later result.
+    private static void behindOneCutOff() {
+        String[] tails = {UNIT, Code.apply(UNIT, ERROR), Code.variable(1)};
+        for (String tail : tails) {
+            TermMachine x = Code.ran(Code.apply(Code.lambda(long390(11, tail)), sized()), 1000);
+            Check.due("cut off: about(8)", x.about(8), 400);
+            Code.read(x, Code.program(0, Code.delay(Code.number(5))));
+            x.begin(100);
+            x.run(100);
+            Check.tells("behind one cut off", x, 1, 4, 0, 5);
+            x.begin(100);
+            x.run(100);
+            Check.tells("the same anew", x, 1, 4, 0, 5);
+        }
     }
 
     // "Number i of the result as a term; NONE when there is none (a number may be -1, too)"
