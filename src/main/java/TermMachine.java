@@ -188,6 +188,16 @@ public final class TermMachine {
         }
     }
 
+    // Rows are read through these two where an index comes from elsewhere, because no call may
+    // throw by itself: outside of the row there is NONE, or 0.
+    private static int at(int[] row, int index) {
+        return index >= 0 && index < row.length ? row[index] : NONE;
+    }
+
+    private static long longAt(long[] row, int index) {
+        return index >= 0 && index < row.length ? row[index] : 0;
+    }
+
     /** The text, and how far it has been read. Once something is wrong it gives no more bits. */
     private static final class Text {
         private final int[] bytes = new int[TEXT_MOST];
@@ -212,16 +222,17 @@ public final class TermMachine {
             return 8 * length;
         }
 
-        int bitAt(int at) {
-            if (at < 0 || (at >> 3) >= length) {
+        int bitAt(int bit) {
+            int index = bit >> 3;
+            if (index < 0 || index >= length) {
                 return 0;
             }
-            return (bytes[at >> 3] >> (7 - (at & 7))) & 1;
+            return (bytes[index] >> (7 - (bit & 7))) & 1;
         }
 
-        void refuse(int at) {
+        void refuse(int bit) {
             if (wrong == NONE) {
-                wrong = at;
+                wrong = bit;
             }
         }
 
@@ -272,9 +283,9 @@ public final class TermMachine {
                 refuse(bits());
             }
             int last = place | 7;
-            for (int at = place; at < last; at++) {
-                if (bitAt(at) == 1) {
-                    refuse(at);
+            for (int bit = place; bit < last; bit++) {
+                if (bitAt(bit) == 1) {
+                    refuse(bit);
                 }
             }
             if (bitAt(last) == 0) {
@@ -347,13 +358,12 @@ public final class TermMachine {
         // Goes as deep as others, which the document's limit keeps low.
         private int fillTerm(Text text, int others, int lambdas) {
             int kindOfTerm = text.take(3);
-            if (count >= TERMS_MOST || others > OTHERS_MOST) {
+            boolean refused = text.wrong != NONE || others > OTHERS_MOST;
+            int term = refused ? NONE : add(kindOfTerm);
+            if (term == NONE) {
                 text.refuseLatest();
-            }
-            if (text.wrong != NONE) {
                 return NONE;
             }
-            int term = add(kindOfTerm);
             switch (kindOfTerm) {
                 case VARIABLE:
                     content[term] = takeVariable(text, lambdas);
@@ -451,43 +461,39 @@ public final class TermMachine {
         }
 
         int addGrown(int partial, int argument) {
-            int grown = add(PARTIAL, content[partial], argument, partial);
+            int grown = add(PARTIAL, longAt(content, partial), argument, partial);
             if (grown != NONE) {
-                given[grown] = given[partial] + 1;
+                given[grown] = at(given, partial) + 1;
             }
             return grown;
         }
 
         int operationOf(int partial) {
-            return (int) content[partial];
+            return (int) longAt(content, partial);
         }
 
         boolean wantsForce(int value) {
-            return kind[value] == PARTIAL && given[value] < FORCES[operationOf(value)];
+            return at(kind, value) == PARTIAL
+                && at(given, value) < at(FORCES, operationOf(value));
         }
 
         boolean wantsArgument(int value) {
-            return kind[value] == PARTIAL && !wantsForce(value);
+            return at(kind, value) == PARTIAL
+                && at(given, value) >= at(FORCES, operationOf(value));
         }
 
         boolean wantsOneArgument(int value) {
-            if (!wantsArgument(value)) {
-                return false;
-            }
             int operation = operationOf(value);
-            return given[value] + 1 == FORCES[operation] + ARGUMENTS[operation];
-        }
-
-        int argumentsOf(int partial) {
-            return Math.max(0, given[partial] - FORCES[operationOf(partial)]);
+            return wantsArgument(value)
+                && at(given, value) + 1 == at(FORCES, operation) + at(ARGUMENTS, operation);
         }
 
         int valueAt(int environment, int k) {
             int link = environment;
             for (int i = 1; i < k && link != NONE; i++) {
-                link = right[link];
+                link = at(right, link);
             }
-            return link == NONE ? NONE : left[link];
+            return at(left, link);
         }
     }
 
@@ -519,15 +525,15 @@ public final class TermMachine {
         }
 
         int latestKind() {
-            return count > 0 ? kind[count - 1] : NONE;
+            return at(kind, count - 1);
         }
 
         int latestPart() {
-            return count > 0 ? part[count - 1] : NONE;
+            return at(part, count - 1);
         }
 
         int latestEnvironment() {
-            return count > 0 ? environment[count - 1] : NONE;
+            return at(environment, count - 1);
         }
     }
 
@@ -547,21 +553,23 @@ public final class TermMachine {
 
         void prepare(Store store, int partial, int latest) {
             operation = store.operationOf(partial);
-            many = ARGUMENTS[operation];
-            arguments[many - 1] = latest;
+            many = at(ARGUMENTS, operation);
+            int argument = latest;
             int from = partial;
-            for (int i = many - 2; i >= 0; i--) {
-                arguments[i] = store.left[from];
-                from = store.right[from];
+            for (int i = many - 1; i >= 0 && i < ARGUMENTS_MOST; i--) {
+                arguments[i] = argument;
+                argument = at(store.left, from);
+                from = at(store.right, from);
             }
         }
 
         int cost(Store store) {
-            int cost = COSTS[operation];
+            int cost = at(COSTS, operation);
             if (operation == JOIN || operation == BYTE_AT) {
                 for (int i = 0; i < many; i++) {
-                    if (store.kind[arguments[i]] == BYTES) {
-                        cost += Packed.length(store.content[arguments[i]]);
+                    int argument = at(arguments, i);
+                    if (at(store.kind, argument) == BYTES) {
+                        cost += Packed.length(longAt(store.content, argument));
                     }
                 }
             }
@@ -578,8 +586,8 @@ public final class TermMachine {
             if (failed) {
                 return;
             }
-            long one = store.content[arguments[0]];
-            long other = many > 1 ? store.content[arguments[1]] : 0;
+            long one = longAt(store.content, arguments[0]);
+            long other = many > 1 ? longAt(store.content, arguments[1]) : 0;
             switch (operation) {
                 case CHOICE:
                     chosen = one == 1 ? arguments[1] : arguments[2];
@@ -601,8 +609,8 @@ public final class TermMachine {
 
         private boolean fits(Store store) {
             for (int i = 0; i < many; i++) {
-                int wanted = WANTED[ARGUMENTS_MOST * operation + i];
-                if (wanted != ANY && store.kind[arguments[i]] != wanted) {
+                int wanted = at(WANTED, ARGUMENTS_MOST * operation + i);
+                if (wanted != ANY && at(store.kind, at(arguments, i)) != wanted) {
                     return false;
                 }
             }
@@ -731,8 +739,11 @@ public final class TermMachine {
                 stepComputing(program);
             } else if (operates) {
                 stepOperating();
+            } else if (frames.count > 0) {
+                stepReturning();
             } else {
-                stepReturning(program);
+                teller.tell(program, store, value);
+                end(WITH_RESULT);
             }
         }
 
@@ -758,12 +769,12 @@ public final class TermMachine {
         }
 
         private void stepComputing(Program program) {
-            switch (program.kind[term]) {
+            switch (at(program.kind, term)) {
                 case VARIABLE:
-                    giveBack(store.valueAt(environment, (int) program.content[term]));
+                    giveBack(store.valueAt(environment, (int) longAt(program.content, term)));
                     break;
                 case APPLY:
-                    goInto(program, FRAME_ARGUMENT, program.second[term]);
+                    goInto(program, FRAME_ARGUMENT, at(program.second, term));
                     break;
                 case FORCE:
                     goInto(program, FRAME_FORCE, NONE);
@@ -783,7 +794,7 @@ public final class TermMachine {
                 return;
             }
             frames.add(kindOfFrame, part, environment);
-            compute(program.first[term], environment);
+            compute(at(program.first, term), environment);
         }
 
         private void makeValue(Program program) {
@@ -791,9 +802,9 @@ public final class TermMachine {
                 end(FULL);
                 return;
             }
-            int part = program.first[term];
-            long content = program.content[term];
-            switch (program.kind[term]) {
+            int part = at(program.first, term);
+            long content = longAt(program.content, term);
+            switch (at(program.kind, term)) {
                 case DELAY:
                     giveBack(store.add(DELAYED, 0, part, environment));
                     break;
@@ -809,7 +820,7 @@ public final class TermMachine {
             }
         }
 
-        private void stepReturning(Program program) {
+        private void stepReturning() {
             switch (frames.latestKind()) {
                 case FRAME_FORCE:
                     forceValue();
@@ -817,20 +828,16 @@ public final class TermMachine {
                 case FRAME_ARGUMENT:
                     turnToArgument();
                     break;
-                case FRAME_FUNCTION:
-                    applyFunction(frames.latestPart());
-                    break;
                 default:
-                    teller.tell(program, store, value);
-                    end(WITH_RESULT);
+                    applyFunction(frames.latestPart());
                     break;
             }
         }
 
         private void forceValue() {
-            if (store.kind[value] == DELAYED) {
+            if (at(store.kind, value) == DELAYED) {
                 frames.drop();
-                compute(store.left[value], store.right[value]);
+                compute(at(store.left, value), at(store.right, value));
             } else if (store.wantsForce(value)) {
                 growPartial(value, NONE);
             } else {
@@ -847,7 +854,7 @@ public final class TermMachine {
         }
 
         private void applyFunction(int function) {
-            if (store.kind[function] == FUNCTION) {
+            if (at(store.kind, function) == FUNCTION) {
                 enterFunction(function);
             } else if (store.wantsArgument(function)) {
                 growPartial(function, value);
@@ -861,8 +868,9 @@ public final class TermMachine {
                 end(FULL);
                 return;
             }
+            int link = store.add(LINK, 0, value, at(store.right, function));
             frames.drop();
-            compute(store.left[function], store.add(LINK, 0, value, store.right[function]));
+            compute(at(store.left, function), link);
         }
 
         private void growPartial(int partial, int argument) {
@@ -915,7 +923,7 @@ public final class TermMachine {
         private int waiting = 0;
 
         int numberAt(int i) {
-            return i >= 0 && i < count ? numbers[i] : NONE;
+            return i < count ? at(numbers, i) : NONE;
         }
 
         void tell(Program program, Store store, int value) {
@@ -925,8 +933,8 @@ public final class TermMachine {
             // Only a free VARIABLE tells no number itself, and the value behind it does.
             for (int i = 0; i < 2 * NUMBERS_MOST && waiting > 0 && count < NUMBERS_MOST; i++) {
                 waiting--;
-                if (lambdas[waiting] == A_VALUE) {
-                    tellValue(store, part[waiting]);
+                if (at(lambdas, waiting) == A_VALUE) {
+                    tellValue(store, at(part, waiting));
                 } else {
                     tellTerm(program, store, waiting);
                 }
@@ -950,27 +958,30 @@ public final class TermMachine {
         }
 
         private void tellValue(Store store, int value) {
-            switch (store.kind[value]) {
+            int kind = at(store.kind, value);
+            switch (kind) {
                 case DELAYED:
                     add(DELAY);
-                    putOff(store.left[value], store.right[value], 0);
+                    putOff(at(store.left, value), at(store.right, value), 0);
                     break;
                 case FUNCTION:
                     add(LAMBDA);
-                    putOff(store.left[value], store.right[value], 1);
+                    putOff(at(store.left, value), at(store.right, value), 1);
                     break;
                 case PARTIAL:
                     tellPartial(store, value);
                     break;
                 default:
-                    tellConstant(store.kind[value], store.content[value]);
+                    tellConstant(kind, longAt(store.content, value));
                     break;
             }
         }
 
         private void tellPartial(Store store, int partial) {
-            int arguments = store.argumentsOf(partial);
-            int forces = store.given[partial] - arguments;
+            int operation = store.operationOf(partial);
+            int given = at(store.given, partial);
+            int forces = Math.min(given, at(FORCES, operation));
+            int arguments = given - forces;
             for (int i = 0; i < arguments; i++) {
                 add(APPLY);
             }
@@ -978,44 +989,46 @@ public final class TermMachine {
                 add(FORCE);
             }
             add(OPERATION);
-            add(store.operationOf(partial));
+            add(operation);
             // From the latest to the first: the first one comes off the pile first.
             int from = partial;
             for (int i = 0; i < arguments; i++) {
-                putOff(store.left[from], NONE, A_VALUE);
-                from = store.right[from];
+                putOff(at(store.left, from), NONE, A_VALUE);
+                from = at(store.right, from);
             }
         }
 
-        private void tellTerm(Program program, Store store, int at) {
-            int term = part[at];
-            int around = environment[at];
-            int lambdasAround = lambdas[at];
-            int kind = program.kind[term];
+        private void tellTerm(Program program, Store store, int place) {
+            int term = at(part, place);
+            int around = at(environment, place);
+            int lambdasAround = at(lambdas, place);
+            int kind = at(program.kind, term);
+            int first = at(program.first, term);
+            long content = longAt(program.content, term);
             switch (kind) {
                 case VARIABLE:
-                    tellVariable(store, (int) program.content[term], around, lambdasAround);
+                    tellVariable(store, (int) content, around, lambdasAround);
                     break;
                 case CONSTANT:
-                    tellConstant(program.first[term], program.content[term]);
+                    tellConstant(first, content);
                     break;
                 case APPLY:
                     add(kind);
-                    putOff(program.second[term], around, lambdasAround);
-                    putOff(program.first[term], around, lambdasAround);
+                    putOff(at(program.second, term), around, lambdasAround);
+                    putOff(first, around, lambdasAround);
                     break;
                 case LAMBDA:
                     add(kind);
-                    putOff(program.first[term], around, lambdasAround + 1);
+                    putOff(first, around, lambdasAround + 1);
                     break;
                 case DELAY:
                 case FORCE:
                     add(kind);
-                    putOff(program.first[term], around, lambdasAround);
+                    putOff(first, around, lambdasAround);
                     break;
                 case OPERATION:
                     add(kind);
-                    add((int) program.content[term]);
+                    add((int) content);
                     break;
                 default:
                     add(kind);

@@ -19,6 +19,14 @@ final class Check {
         }
     }
 
+    static void due(String what, String got, String want) {
+        if (got.equals(want)) {
+            passed++;
+        } else {
+            fail(what + " answered " + got + ", due is " + want);
+        }
+    }
+
     private static void fail(String line) {
         failed++;
         if (failed <= PRINTED_MOST) {
@@ -33,11 +41,7 @@ final class Check {
         } catch (RuntimeException e) {
             came = e.getClass().getSimpleName();
         }
-        if (came.equals(want.getSimpleName())) {
-            passed++;
-        } else {
-            fail(what + " gave " + came + ", due is " + want.getSimpleName());
-        }
+        due(what, came, want.getSimpleName());
     }
 
     static void badArgument(String what, Call call) {
